@@ -1,10 +1,15 @@
 /** Promises 27 to 31: toMove, isOver, winner, repetitions, movesMade. */
 public final class GameTest {
+    /** Two squares with the other side's pieces to their right, and how the pieces on them change places. */
+    private static final String[] BESIDE = {"c1", "c3", "c1a1", "c3c1", "a1c3"};
+
     public static void main(String[] args) {
         promise27();
         promises28And29();
         promise30();
-        promise30SameBoard();
+        promise30OtherSide();
+        promise30ChangedPlaces();
+        oneMoveIsEnough();
         promise31();
         Check.finish();
     }
@@ -89,8 +94,7 @@ public final class GameTest {
         Check.same("30: the board at the end", won.repetitions(), 1);
     }
 
-    /** What makes boards differ: the side to move, the steps, the leader. */
-    private static void promise30SameBoard() {
+    private static void promise30OtherSide() {
         BrackenGambit sides = new BrackenGambit();
         sides.putLeader(0, 0, 3);
         sides.putLeader(1, 35, 1);
@@ -98,35 +102,58 @@ public final class GameTest {
         Check.type(sides, "a1a2 f6e6 a2b1 e6f6 b1a1");
         Check.same("30: played", sides.play(), 5);
         Check.same("30: another side to move", sides.repetitions(), 1);
+    }
 
-        BrackenGambit swapped = new BrackenGambit();
-        swapped.putPiece(0, Check.square("a1"), 1);
-        swapped.putPiece(0, Check.square("b1"), 1);
-        swapped.putLeader(0, Check.square("a6"), 1);
-        swapped.putLeader(1, Check.square("f6"), 1);
-        swapped.start();
-        Check.type(swapped, "a1a2 f6e6 b1a1 e6f6 a2b2 f6e6 b2b1 e6f6");
-        Check.same("30: swapped", swapped.play(), 8);
-        Check.same("30: like pieces in each other's place", swapped.repetitions(), 2);
+    /** Two pieces change places; whether the board is the same then tells what belongs to a board. */
+    private static void promise30ChangedPlaces() {
+        String[][] near = {
+            {"a1", "b1", "a1a2", "b1a1", "a2b1"},
+            {"d2", "e2", "d2d3", "e2d2", "d3e2"},
+            {"a4", "b4", "a4a5", "b4a4", "a5b4"},
+            {"a6", "b6", "a6a5", "b6a6", "a5b6"},
+            {"a1", "d2", "a1a2", "d2d1", "a2d2", "d1a1"},
+            {"a4", "d5", "a4a5", "d5d4", "a5d5", "d4a4"}};
+        for (String[] way : near) {
+            Check.same("30: like pieces on " + way[0], timesAfter(false, 31, 31, way), 2);
+            Check.same("30: other steps on " + way[0], timesAfter(false, 31, 15, way), 1);
+            Check.same("30: the leader on " + way[0], timesAfter(true, 31, 31, way), 1);
+        }
+        Check.same("30: beside the other side's", timesAfter(false, 30, 31, BESIDE), 1);
+    }
 
-        BrackenGambit leaders = new BrackenGambit();
-        leaders.putLeader(0, Check.square("a1"), 1);
-        leaders.putPiece(0, Check.square("b1"), 1);
-        leaders.putLeader(1, Check.square("f6"), 1);
-        leaders.start();
-        Check.type(leaders, "a1a2 f6e6 b1a1 e6f6 a2b2 f6e6 b2b1 e6f6");
-        Check.same("30: leader swapped", leaders.play(), 8);
-        Check.same("30: a leader in another's place", leaders.repetitions(), 1);
+    private static int timesAfter(boolean leads, int steps, int otherSteps, String[] way) {
+        BrackenGambit game = new BrackenGambit();
+        if (leads) {
+            game.putLeader(0, Check.square(way[0]), steps);
+        } else {
+            game.putPiece(0, Check.square(way[0]), steps);
+            game.putLeader(0, Check.square("f1"), 1);
+        }
+        game.putPiece(0, Check.square(way[1]), otherSteps);
+        game.putLeader(1, Check.square("f6"), 3);
+        if (way == BESIDE) {
+            game.putPiece(1, Check.square("d1"), 1);
+            game.putPiece(1, Check.square("d3"), 1);
+        }
+        game.start();
+        String[] answers = way.length == 5
+                ? new String[] {"f6e6", "e6f5", "f5f6"} : new String[] {"f6e6", "e6f6", "f6f5", "f5f6"};
+        for (int i = 0; i < answers.length; i++) {
+            game.move(Check.square(way[2 + i]), Check.square(way[2 + i].substring(2)));
+            game.move(Check.square(answers[i]), Check.square(answers[i].substring(2)));
+        }
+        return game.repetitions();
+    }
 
-        BrackenGambit steps = new BrackenGambit();
-        steps.putPiece(0, Check.square("a1"), 1);
-        steps.putPiece(0, Check.square("b1"), 3);
-        steps.putLeader(0, Check.square("a6"), 1);
-        steps.putLeader(1, Check.square("f6"), 1);
-        steps.start();
-        Check.type(steps, "a1a2 f6e6 b1a1 e6f6 a2b2 f6e6 b2b1 e6f6");
-        Check.same("30: steps swapped", steps.play(), 8);
-        Check.same("30: other steps", steps.repetitions(), 1);
+    private static void oneMoveIsEnough() {
+        BrackenGambit game = new BrackenGambit();
+        game.putLeader(0, Check.square("a1"), 2);
+        game.putLeader(1, Check.square("f6"), 2);
+        Check.same("28: one move of side 0", game.start(), 1);
+        Check.same("28: is enough", game.isOver(), false);
+        game.move(Check.square("a1"), Check.square("b2"));
+        Check.same("28: one move of side 1", game.moveCount(1), 1);
+        Check.same("28: is enough", game.isOver(), false);
     }
 
     private static void promise31() {

@@ -12,6 +12,7 @@ public final class GuardsTest {
         promise25();
         promise25Leaders();
         promise25Choice();
+        promise25Longest();
         promise26();
         wrongArguments();
         Check.finish();
@@ -96,6 +97,13 @@ public final class GuardsTest {
             Check.same("22: side 1 on " + squares[i], game.guards(1, square), side1[i]);
             Check.same("23: side 1 on " + squares[i], game.guardsByLooking(1, square), side1[i]);
         }
+        BrackenGambit corners = new BrackenGambit();
+        corners.putPiece(0, at("a1"), 1);
+        corners.putPiece(0, at("f6"), 16);
+        Check.same("22: from the lowest square", corners.guards(0, at("a2")), 1);
+        Check.same("23: from the lowest square", corners.guardsByLooking(0, at("a2")), 1);
+        Check.same("22: the lowest square", corners.guards(0, at("a1")), 1);
+        Check.same("23: the lowest square", corners.guardsByLooking(0, at("a1")), 1);
         BrackenGambit alone = new BrackenGambit();
         alone.putPiece(0, at("d4"), 31);
         Check.same("22: not its own square", alone.guards(0, at("d4")), 0);
@@ -182,6 +190,27 @@ public final class GuardsTest {
         opening.takeAway(at("b3"));
         opening.putPiece(1, at("b3"), 8);
         Check.same("25: c5 is worth less, and b3 stays in the way", opening.exchange(at("b4")), 5);
+    }
+
+    /** All sixteen pieces, of which the last one that captures decides. */
+    private static void promise25Longest() {
+        BrackenGambit game = new BrackenGambit();
+        game.putPiece(0, at("c3"), 1);
+        for (String name : new String[] {"c2", "c4", "b3", "d3"}) {
+            game.putPiece(0, at(name), 1);
+        }
+        for (String name : new String[] {"b2", "b4", "d2"}) {
+            game.putPiece(0, at(name), 2);
+        }
+        for (String name : new String[] {"a2", "a4", "b1", "b5", "d1", "d5", "e2"}) {
+            game.putPiece(1, at(name), 4);
+        }
+        Check.same("25: seven against seven", game.exchange(at("c3")), 0);
+        game.putPiece(1, at("e4"), 4);
+        Check.same("25: eight against seven", game.exchange(at("c3")), 1);
+        game.takeAway(at("c3"));
+        game.putPiece(0, at("c3"), 31);
+        Check.same("25: for all that c3 knows", game.exchange(at("c3")), 13);
     }
 
     private static void promise26() {
