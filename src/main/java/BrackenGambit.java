@@ -299,7 +299,7 @@ public final class BrackenGambit {
     /** Captures on the board that it is given; the depth ends with the pieces. */
     private static int exchangeOn(Board board, int square, int depth) {
         int victim = board.pieceOn(square);
-        int from = board.cheapestGuard(1 - Piece.sideOf(victim), square);
+        int from = board.cheapestOn(board.guardsSeenFrom(1 - Piece.sideOf(victim), square));
         if (from == NOWHERE || depth >= MOST_CAPTURES) {
             return 0;
         }
@@ -538,12 +538,12 @@ public final class BrackenGambit {
             return found;
         }
 
-        int cheapestGuard(int side, int target) {
-            long guardSquares = guardsSeenFrom(side, target);
+        /** Of some squares with pieces the one with the least worth, of several the lowest. */
+        int cheapestOn(long among) {
             int found = NOWHERE;
             int least = 0;
             for (int square = 0; square < SQUARES; square++) {
-                if ((guardSquares >> square & 1L) != 0L) {
+                if ((among >> square & 1L) != 0L) {
                     int value = Piece.worthOf(squares[square]);
                     if (found == NOWHERE || value < least) {
                         found = square;

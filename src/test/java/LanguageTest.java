@@ -4,7 +4,10 @@ import java.nio.file.Path;
 import java.util.regex.Matcher;
 import java.util.regex.Pattern;
 
-/** Those rules of ../shared/LANGUAGE.md that can be seen from the words of the file. */
+/**
+ * Those rules of ../shared/LANGUAGE.md that can be seen from the words of the file.
+ * Where a rule allows a word under conditions (try, instanceof), the class does without.
+ */
 public final class LanguageTest {
     private static final Path FILE = Path.of("src/main/java/BrackenGambit.java");
 
