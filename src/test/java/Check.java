@@ -17,6 +17,14 @@ final class Check {
     private Check() {
     }
 
+    static int wrong() {
+        return wrong;
+    }
+
+    static int asked() {
+        return asked;
+    }
+
     static void same(String what, Object got, Object want) {
         asked++;
         if (!got.equals(want)) {
