@@ -108,7 +108,8 @@ final class BeforeTheGameEdges extends Edges {
                 refused("steps " + steps, game, Check.ARGUMENT, () -> to.put(game, 0, 0, steps));
             }
         });
-        String state = "Throws `IllegalStateException` if the game is started, the square is not empty, or the side has 8 pieces";
+        String state = "Throws `IllegalStateException` if the game is started, the square is not empty, "
+                + "or the side has 8 pieces";
         edge(state, "the game is started", () -> {
             BrackenGambit game = leaders();
             refused("in the game", game, Check.STATE, () -> to.put(game, 0, 20, 1));

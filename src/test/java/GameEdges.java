@@ -120,8 +120,14 @@ final class GameEdges extends Edges {
             moves(game, "f6e6");
             same("and another", game.repetitions(), 1);
         });
-        edge(sentence, "after a leader was captured", () ->
-            same("the last board counts as well", wonByCapture().repetitions(), 1));
+        edge(sentence, "after a leader was captured", () -> {
+            same("the last board counts as well", wonByCapture().repetitions(), 1);
+            BrackenGambit game = started("0La1:0 1Lc1:0 0Pf6:0");
+            moves(game, "f6f5 c1b1 f5f6 b1c1 f6f5 c1b1");
+            same("the board before it twice", game.repetitions(), 2);
+            moves(game, "a1b1");
+            same("the last board once", game.repetitions(), 1);
+        });
         String number = "Returns the number, 0 before the start.";
         edge(number, "before the start", () -> {
             same("a new object", new BrackenGambit().repetitions(), 0);

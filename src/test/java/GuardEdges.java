@@ -20,7 +20,8 @@ final class GuardEdges extends Edges {
         ofSide((game, side) -> game.moveCount(side));
         section("Promise 22");
         guards(BrackenGambit::guards);
-        edge("found by going along the steps of all its pieces", "eight pieces", () -> eightGuards(BrackenGambit::guards));
+        edge("found by going along the steps of all its pieces", "eight pieces",
+                () -> eightGuards(BrackenGambit::guards));
         section("Promise 23");
         guards(BrackenGambit::guardsByLooking);
         edge("found by looking from the square back along all kinds of steps", "all kinds",
@@ -109,7 +110,8 @@ final class GuardEdges extends Edges {
     }
 
     private static void moveCount() {
-        edge("whether the game is started or not, and whichever side is to move", "before, in and after the game", () -> {
+        String whichever = "whether the game is started or not, and whichever side is to move";
+        edge(whichever, "before, in and after the game", () -> {
             BrackenGambit game = board("0La1:0 1Lf6:1 0Pc3:0");
             same("before the start", game.moveCount(0) * 10 + game.moveCount(1), 61);
             game.start();

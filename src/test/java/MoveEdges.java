@@ -95,7 +95,8 @@ final class MoveEdges extends Edges {
     }
 
     private static void play() {
-        String sentence = "Makes the moves of the text buffer, one after the other, up to the first one that is not possible.";
+        String sentence = "Makes the moves of the text buffer, one after the other, "
+                + "up to the first one that is not possible.";
         edge(sentence, "each of the moves", () -> {
             BrackenGambit game = leaders();
             Check.type(game, "a1b1 f6e6 b1b2");
@@ -168,7 +169,8 @@ final class MoveEdges extends Edges {
         edge("Throws `IllegalArgumentException` if the buffer is not a list of moves", "no list of moves", () -> {
             BrackenGambit game = leaders();
             refused("an empty text", game, Check.ARGUMENT, game::play);
-            for (String text : new String[] {"a", "a1b", "a1b1 ", "a1b1 f6", "a1b1 f6f6", "a1b1,f6e6", "a1g1", "a1b7"}) {
+            String[] texts = {"a", "a1b", "a1b1 ", "a1b1 f6", "a1b1 f6f6", "a1b1,f6e6", "a1g1", "a1b7"};
+            for (String text : texts) {
                 Check.retype(game, text);
                 refused(text, game, Check.ARGUMENT, game::play);
             }

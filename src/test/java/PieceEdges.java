@@ -178,9 +178,9 @@ final class PieceEdges extends Edges {
             refused("captured", won, Check.NO_ELEMENT, () -> won.leaderOf(1));
         });
         edge(none, "a piece that captured a leader is none", () -> {
-            BrackenGambit game = started("0Lf1:0 0Pa1:0 1La2:0");
+            BrackenGambit game = started("0Lf6:0 0Pa1:0 1La2:0");
             moves(game, "a1a2");
-            same("the old one leads", game.leaderOf(0), at("f1"));
+            same("the old one leads", game.leaderOf(0), at("f6"));
             refused("none of the other side", game, Check.NO_ELEMENT, () -> game.leaderOf(1));
         });
     }

@@ -11,6 +11,7 @@ final class TermsPlayEdges extends Edges {
         stalled();
         thirdTime();
         sameBoard();
+        sameButForOnePiece();
         end();
         guarding();
         whicheverSide();
@@ -70,6 +71,11 @@ final class TermsPlayEdges extends Edges {
                 same("from a piece with " + kinds[i], game.stepsAt(at("b1")), due[i]);
                 same("and it still leads", game.leaderOf(0), at("b1"));
             }
+        });
+        edge(captured, "being a leader is not learnt", () -> {
+            BrackenGambit game = started("0Lf1:0 0Pa1:0 1La2:1");
+            moves(game, "a1a2");
+            same("the worth of its kinds alone", game.worthAt(at("a2")), 2);
         });
         String leader = "A captured leader ends the game: the side that captures wins.";
         edge(leader, "a captured leader of each side", () -> {
@@ -183,6 +189,30 @@ final class TermsPlayEdges extends Edges {
                 }
             }
         });
+    }
+
+    private static void sameButForOnePiece() {
+        edge(THIRD_TIME, "one piece less than before", () -> {
+            for (int square = 0; square < 36; square++) {
+                same("captured on " + square, timesAfterCaptureOn(square), 1);
+            }
+        });
+    }
+
+    /** The capturing piece goes back, so that the board differs by the captured piece alone. */
+    private static int timesAfterCaptureOn(int square) {
+        int beside = square % 6 < 5 ? square + 1 : square - 1;
+        String far = square < 18 ? "f6f5 f5f6" : "a1a2 a2a1";
+        BrackenGambit game = new BrackenGambit();
+        game.putLeader(0, beside, 1);
+        game.putPiece(1, square, 1);
+        game.putLeader(1, at(far), 1);
+        game.start();
+        game.move(beside, square);
+        moves(game, far.substring(0, 4));
+        game.move(square, beside);
+        moves(game, far.substring(5));
+        return game.repetitions();
     }
 
     private static int timesTwoSquaresAside(int square) {

@@ -237,7 +237,8 @@ final class TermsTextEdges extends Edges {
     }
 
     private static void whichExceptions() {
-        String first = "If several exceptions apply, the one that is listed first in the method's throws clause is thrown.";
+        String first = "If several exceptions apply, "
+                + "the one that is listed first in the method's throws clause is thrown.";
         edge(first, "index before argument before state", () -> {
             BrackenGambit game = leaders();
             refused("putPiece side", game, Check.INDEX, () -> game.putPiece(2, 0, 0));

@@ -3,6 +3,9 @@ import java.util.function.ToIntBiFunction;
 
 /** The edges that the promises 32 to 36 name: worth, worthByAccount, captured, worthShare, historySize. */
 final class TotalEdges extends Edges {
+    private static final String ALL_WORTHS = "0La1:01234 0Pb1:01234 0Pc1:01234 0Pd1:01234 "
+            + "0Pe1:01234 0Pf1:01234 0Pa2:01234 0Pf6:01234";
+
     static void run() {
         section("Promise 32");
         worths(BrackenGambit::worth);
@@ -21,9 +24,6 @@ final class TotalEdges extends Edges {
         section("Promise 36");
         historySize();
     }
-
-    private static final String ALL_WORTHS = "0La1:01234 0Pb1:01234 0Pc1:01234 0Pd1:01234 "
-            + "0Pe1:01234 0Pf1:01234 0Pa2:01234 0Pf6:01234";
 
     private static void ofSide(BiConsumer<BrackenGambit, Integer> query) {
         edge("Throws `IndexOutOfBoundsException` if there is no such side", "no such side", () -> {
@@ -141,7 +141,8 @@ final class TotalEdges extends Edges {
 
     private static void worthShare() {
         ofSide((game, side) -> game.worthShare(side));
-        String sentence = "Returns its worth, converted to double, divided by the worth of both sides; 0.0 without pieces.";
+        String sentence = "Returns its worth, converted to double, divided by the worth of both sides; "
+                + "0.0 without pieces.";
         edge(sentence, "without pieces", () -> {
             BrackenGambit game = new BrackenGambit();
             same("side 0", game.worthShare(0), 0.0);
